@@ -31,6 +31,7 @@ public final class FreightShare {
     private static final int MAX_FUEL = 9999;
     private static final int MAX_WEIGHT = 99;
     private static final int MAX_DIGITS = 4;
+    private static final int MAX_FIELDS = 3;
 
     private static final int NOT_EXPECTED = 1;
     private static final int BAD_NUMBER = 2;
@@ -51,6 +52,7 @@ public final class FreightShare {
     private static final int TO_WORD = 11;
     private static final int ON_WORD = 12;
     private static final int OFF_WORD = 13;
+    private static final int NO_WORD = -1;
 
     private static final int FUEL_CHANGE = 0;
     private static final int BUY_CHANGE = 1;
@@ -162,7 +164,7 @@ public final class FreightShare {
             case 2: return tripBits(truck);
             case 3: return sumOverTrips(truck, routes.tripLong);
             case 4: return sumOverTrips(truck, routes.tripEmpty);
-            case 5: return fuelTold(truck);
+            case 5: return desk.fuelTold(truck);
             case 6: return lastPlace(truck);
             case 7: return sumOverTrips(truck, ledger.estimate);
             default: return NONE;
@@ -410,16 +412,6 @@ public final class FreightShare {
         return sum;
     }
 
-    private int fuelTold(int truck) {
-        int sum = 0;
-        for (int trip = 0; trip < desk.trips; trip++) {
-            if (desk.tripTruck[trip] == truck && desk.tripFuel[trip] != NONE) {
-                sum += desk.tripFuel[trip];
-            }
-        }
-        return sum;
-    }
-
     private int lastPlace(int truck) {
         int place = NONE;
         for (int trip = 0; trip < desk.trips; trip++) {
@@ -564,10 +556,6 @@ public final class FreightShare {
             if (spells("none")) {
                 return NONE_WORD;
             }
-            return lineWordKind();
-        }
-
-        private int lineWordKind() {
             if (spells("desk")) {
                 return DESK_WORD;
             }
@@ -608,13 +596,23 @@ public final class FreightShare {
         }
     }
 
-    /** Reads the tape as a text, up to its first fault. */
+    /** Reads the tape as a text, token by token, up to its first fault. */
     private static final class Reader {
         private final Scanner tokens;
         private Desk target;
         int lines;
         int faultKind;
         int faultPlace;
+        /** The word that the present line began with; NO_WORD between lines. */
+        private int lineWord;
+        /** The numbers of the present line, without a trip's steps, as far as they were told. */
+        private final int[] told = new int[MAX_FIELDS];
+        private int toldCount;
+        private int wanted;
+        /** The word of a step whose number is still to come; NO_WORD, if none is. */
+        private int stepWord;
+        private int aboard;
+        private int wasAboard;
 
         Reader(Tape tape) {
             tokens = new Scanner(tape);
@@ -627,184 +625,183 @@ public final class FreightShare {
             lines = 0;
             faultKind = 0;
             faultPlace = 0;
+            lineWord = NO_WORD;
             tokens.begin();
             for (int k = 0; k <= TAPE_BYTES; k++) {
                 tokens.next();
                 if (tokens.kind == AT_END) {
-                    return !tokens.hasTooMany() || refuse(NOT_EXPECTED);
+                    break;
                 }
-                if (!readLine()) {
+                if (!takeToken()) {
                     return false;
                 }
-                lines++;
             }
-            return refuse(NOT_EXPECTED);
+            boolean whole = lineWord == NO_WORD && !tokens.hasTooMany();
+            return whole || refuse(NOT_EXPECTED);
         }
 
-        /** Always false, so that a reading method can end with it. */
+        /** Always false, so that a method that takes a token can end with it. */
         private boolean refuse(int kind) {
-            // Of faults at one token the first that is found is the least; later ones don't count.
-            if (faultKind == 0) {
-                faultKind = kind;
-                faultPlace = tokens.start;
-            }
+            faultKind = kind;
+            faultPlace = tokens.start;
             return false;
         }
 
-        private boolean readLine() {
-            if (lines == 0) {
-                return tokens.kind == DESK_WORD ? readDesk() : refuse(NOT_EXPECTED);
+        private boolean takeToken() {
+            if (lineWord == NO_WORD) {
+                return beginLine();
             }
-            switch (tokens.kind) {
-                case PLACE_WORD: return readPlace();
-                case TRUCK_WORD: return readTruck();
-                case LOAD_WORD: return readLoad();
-                case TRIP_WORD: return readTrip();
+            if (toldCount < wanted) {
+                return takeField();
+            }
+            if (lineWord == TRIP_WORD) {
+                return takeStep();
+            }
+            return tokens.kind == SEMICOLON ? endLine() : refuse(NOT_EXPECTED);
+        }
+
+        private boolean beginLine() {
+            int word = tokens.kind;
+            if ((word == DESK_WORD) != (lines == 0)) {
+                return refuse(NOT_EXPECTED);
+            }
+            switch (word) {
+                case DESK_WORD: return beginLineOf(word, 1, true);
+                case PLACE_WORD: return beginLineOf(word, 2, target.places < MAX_PLACES);
+                case TRUCK_WORD: return beginLineOf(word, 2, target.trucks < MAX_TRUCKS);
+                case LOAD_WORD: return beginLineOf(word, 3, target.loads < MAX_LOADS);
+                case TRIP_WORD: return beginLineOf(word, 3, target.trips < MAX_TRIPS);
                 default: return refuse(NOT_EXPECTED);
             }
         }
 
-        private boolean readDesk() {
-            int rate = readNumber(0, MAX_RATE);
-            if (faultKind != 0) {
-                return false;
-            }
-            target.rate = rate;
-            return readSemicolon();
-        }
-
-        private boolean readPlace() {
-            if (target.places >= MAX_PLACES) {
+        private boolean beginLineOf(int word, int fields, boolean hasRoom) {
+            if (!hasRoom) {
                 return refuse(TOO_MANY);
             }
-            int x = readNumber(0, MAX_COORDINATE);
-            int y = faultKind == 0 ? readNumber(0, MAX_COORDINATE) : 0;
-            if (faultKind != 0) {
+            lineWord = word;
+            wanted = fields;
+            toldCount = 0;
+            stepWord = NO_WORD;
+            aboard = 0;
+            wasAboard = 0;
+            return true;
+        }
+
+        private boolean takeField() {
+            switch (lineWord) {
+                case DESK_WORD: return takeNumber(0, MAX_RATE);
+                case PLACE_WORD: return takeNumber(0, MAX_COORDINATE);
+                case TRUCK_WORD: return takeNumber(0, toldCount == 0 ? MAX_USE : MAX_FUEL);
+                case LOAD_WORD: return takeFieldOfLoad();
+                default: return takeFieldOfTrip();
+            }
+        }
+
+        private boolean takeFieldOfLoad() {
+            if (toldCount == 0) {
+                return takeNumber(1, MAX_WEIGHT);
+            }
+            if (!takeNumberTold(target.places)) {
                 return false;
             }
-            target.addPlace(x, y);
-            return readSemicolon();
+            boolean alike = toldCount == 3 && told[1] == told[2];
+            return !alike || refuse(NOT_TOLD);
         }
 
-        private boolean readTruck() {
-            if (target.trucks >= MAX_TRUCKS) {
-                return refuse(TOO_MANY);
+        private boolean takeFieldOfTrip() {
+            if (toldCount == 0) {
+                return takeNumberTold(target.trucks);
             }
-            int use = readNumber(0, MAX_USE);
-            int bought = faultKind == 0 ? readNumber(0, MAX_FUEL) : 0;
-            if (faultKind != 0) {
+            if (toldCount == 1) {
+                return tokens.kind == NONE_WORD ? keepField(NONE) : takeNumber(0, MAX_FUEL);
+            }
+            if (!takeNumberTold(target.places)) {
                 return false;
             }
-            target.addTruck(use, bought);
-            return readSemicolon();
+            target.addTrip(told[0], told[1], told[2]);
+            return true;
         }
 
-        private boolean readLoad() {
-            if (target.loads >= MAX_LOADS) {
-                return refuse(TOO_MANY);
-            }
-            int weight = readNumber(1, MAX_WEIGHT);
-            int from = faultKind == 0 ? readTold(target.places) : 0;
-            int to = faultKind == 0 ? readTold(target.places) : 0;
-            if (faultKind != 0) {
-                return false;
-            }
-            if (from == to) {
-                return refuse(NOT_TOLD);
-            }
-            target.addLoad(weight, from, to);
-            return readSemicolon();
-        }
-
-        private boolean readTrip() {
-            if (target.trips >= MAX_TRIPS) {
-                return refuse(TOO_MANY);
-            }
-            int truck = readTold(target.trucks);
-            int fuel = faultKind == 0 ? readFuel() : 0;
-            int start = faultKind == 0 ? readTold(target.places) : 0;
-            if (faultKind != 0) {
-                return false;
-            }
-            target.addTrip(truck, fuel, start);
-            return readSteps();
-        }
-
-        /** The steps of the trip that was added last, with its semicolon. */
-        private boolean readSteps() {
-            int aboard = 0;
-            int seen = 0;
-            for (int k = 0; k <= TAPE_BYTES; k++) {
-                tokens.next();
-                int kind = tokens.kind;
-                if (kind == SEMICOLON) {
-                    return aboard == 0 || refuse(NOT_TOLD);
-                }
-                if (kind != TO_WORD && kind != ON_WORD && kind != OFF_WORD) {
-                    return refuse(NOT_EXPECTED);
-                }
-                int which = readTold(kind == TO_WORD ? target.places : target.loads);
-                if (faultKind != 0) {
-                    return false;
-                }
-                if (kind == ON_WORD) {
-                    if ((seen >> which & 1) != 0) {
-                        return refuse(NOT_TOLD);
-                    }
-                    seen |= 1 << which;
-                    aboard |= 1 << which;
-                } else if (kind == OFF_WORD) {
-                    if ((aboard >> which & 1) == 0) {
-                        return refuse(NOT_TOLD);
-                    }
-                    aboard &= ~(1 << which);
-                }
-                target.addStep(kind, which);
-            }
-            return refuse(NOT_EXPECTED);
-        }
-
-        private boolean readSemicolon() {
-            tokens.next();
-            return tokens.kind == SEMICOLON || refuse(NOT_EXPECTED);
-        }
-
-        private int readFuel() {
-            tokens.next();
-            if (tokens.kind == NONE_WORD) {
-                return NONE;
-            }
-            return takeNumber(0, MAX_FUEL);
-        }
-
-        private int readNumber(int least, int most) {
-            tokens.next();
-            return takeNumber(least, most);
-        }
-
-        private int takeNumber(int least, int most) {
+        private boolean takeNumber(int least, int most) {
             if (tokens.kind != NUMBER) {
-                refuse(NOT_EXPECTED);
-                return 0;
+                return refuse(NOT_EXPECTED);
             }
             if (tokens.value < least || tokens.value > most) {
-                refuse(BAD_NUMBER);
-                return 0;
+                return refuse(BAD_NUMBER);
             }
-            return tokens.value;
+            return keepField(tokens.value);
         }
 
-        private int readTold(int count) {
-            tokens.next();
+        private boolean takeNumberTold(int count) {
+            return isNumberTold(count) && keepField(tokens.value);
+        }
+
+        private boolean isNumberTold(int count) {
             if (tokens.kind != NUMBER) {
-                refuse(NOT_EXPECTED);
-                return 0;
+                return refuse(NOT_EXPECTED);
             }
-            if (tokens.value >= count) {
-                refuse(NOT_TOLD);
-                return 0;
+            return tokens.value < count || refuse(NOT_TOLD);
+        }
+
+        private boolean keepField(int value) {
+            if (toldCount < MAX_FIELDS) {
+                told[toldCount] = value;
+                toldCount++;
             }
-            return tokens.value;
+            return true;
+        }
+
+        private boolean takeStep() {
+            if (stepWord != NO_WORD) {
+                return takeNumberOfStep();
+            }
+            switch (tokens.kind) {
+                case TO_WORD:
+                case ON_WORD:
+                case OFF_WORD:
+                    stepWord = tokens.kind;
+                    return true;
+                case SEMICOLON:
+                    return aboard == 0 ? endLine() : refuse(NOT_TOLD);
+                default:
+                    return refuse(NOT_EXPECTED);
+            }
+        }
+
+        private boolean takeNumberOfStep() {
+            if (!isNumberTold(stepWord == TO_WORD ? target.places : target.loads)) {
+                return false;
+            }
+            int which = tokens.value;
+            if (stepWord == ON_WORD) {
+                if ((wasAboard >> which & 1) != 0) {
+                    return refuse(NOT_TOLD);
+                }
+                aboard |= 1 << which;
+                wasAboard |= 1 << which;
+            } else if (stepWord == OFF_WORD) {
+                if ((aboard >> which & 1) == 0) {
+                    return refuse(NOT_TOLD);
+                }
+                aboard &= ~(1 << which);
+            }
+            target.addStep(stepWord, which);
+            stepWord = NO_WORD;
+            return true;
+        }
+
+        private boolean endLine() {
+            switch (lineWord) {
+                case DESK_WORD: target.rate = told[0]; break;
+                case PLACE_WORD: target.addPlace(told[0], told[1]); break;
+                case TRUCK_WORD: target.addTruck(told[0], told[1]); break;
+                case LOAD_WORD: target.addLoad(told[0], told[1], told[2]); break;
+                default: break; // a trip was added ahead of its steps
+            }
+            lineWord = NO_WORD;
+            lines++;
+            return true;
         }
     }
 
@@ -886,6 +883,16 @@ public final class FreightShare {
 
         int firstStep(int trip) {
             return trip > 0 && trip < MAX_TRIPS ? tripStepsEnd[trip - 1] : 0;
+        }
+
+        int fuelTold(int truck) {
+            int sum = 0;
+            for (int trip = 0; trip < trips; trip++) {
+                if (tripTruck[trip] == truck && tripFuel[trip] != NONE) {
+                    sum += tripFuel[trip];
+                }
+            }
+            return sum;
         }
 
         int distance(int a, int b) {
@@ -1043,7 +1050,7 @@ public final class FreightShare {
         final int[] gets = new int[MAX_MEASURES];
         private final int[] measure = new int[MAX_MEASURES];
         private final long[] remainder = new long[MAX_MEASURES];
-        private int count;
+        int count;
 
         void begin() {
             count = 0;
@@ -1174,52 +1181,45 @@ public final class FreightShare {
         }
 
         private void closeTruck(int truck) {
-            int trips = 0;
-            int told = 0;
-            int missing = 0;
-            for (int trip = 0; trip < desk.trips; trip++) {
-                if (desk.tripTruck[trip] != truck) {
-                    continue;
-                }
-                trips++;
-                if (desk.tripFuel[trip] == NONE) {
-                    missing += estimate[trip];
-                } else {
-                    told += desk.tripFuel[trip];
-                }
-            }
             int bought = desk.bought[truck];
-            if (trips == 0) {
-                open += bought;
-            } else if (missing > 0 && told <= bought) {
-                closeTrips(truck, bought - told, true);
-            } else {
-                closeTrips(truck, bought, false);
-            }
-        }
-
-        /** Closes a truck's trips to a number, the ones with fuel told, if they keep it, to that. */
-        private void closeTrips(int truck, int number, boolean keepsTold) {
+            int toldFuel = desk.fuelTold(truck);
+            boolean keepsTold = sumOfMissing(truck) > 0 && toldFuel <= bought;
             parter.begin();
             for (int trip = 0; trip < desk.trips; trip++) {
-                if (desk.tripTruck[trip] != truck) {
-                    continue;
-                }
-                if (keepsTold && desk.tripFuel[trip] != NONE) {
-                    closed[trip] = desk.tripFuel[trip];
-                } else {
+                if (isParted(trip, truck, keepsTold)) {
                     parter.add(estimate[trip]);
+                } else if (desk.tripTruck[trip] == truck) {
+                    closed[trip] = desk.tripFuel[trip];
                 }
             }
-            parter.divide(number);
+            // Where fuel told is kept, some trip without is parted to: so none means no trips.
+            if (parter.count == 0) {
+                open += bought;
+                return;
+            }
+            parter.divide(keepsTold ? bought - toldFuel : bought);
             int next = 0;
-            for (int trip = 0; trip < desk.trips; trip++) {
-                boolean keeps = keepsTold && desk.tripFuel[trip] != NONE;
-                if (desk.tripTruck[trip] == truck && !keeps && next < parter.gets.length) {
+            for (int trip = 0; trip < desk.trips && next < parter.count; trip++) {
+                if (isParted(trip, truck, keepsTold)) {
                     closed[trip] = parter.gets[next];
                     next++;
                 }
             }
+        }
+
+        private boolean isParted(int trip, int truck, boolean keepsTold) {
+            return desk.tripTruck[trip] == truck && !(keepsTold && desk.tripFuel[trip] != NONE);
+        }
+
+        /** The estimates of a truck's trips without fuel told. */
+        private int sumOfMissing(int truck) {
+            int sum = 0;
+            for (int trip = 0; trip < desk.trips; trip++) {
+                if (desk.tripTruck[trip] == truck && desk.tripFuel[trip] == NONE) {
+                    sum += estimate[trip];
+                }
+            }
+            return sum;
         }
 
         private void gatherIdle() {
