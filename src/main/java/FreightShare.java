@@ -2,8 +2,8 @@ import java.util.NoSuchElementException;
 
 /**
  * A freight share desk. A text tells places, trucks, loads and trips; the desk closes what fuel
- * was bought over the trips and parts it to the loads. No call makes an object: all rows are
- * made once, by the constructor.
+ * was bought over the trips and parts it to the loads. All rows are made once, by the constructor;
+ * a call makes no object but the exception that it throws.
  */
 public final class FreightShare {
     public static final int NONE = -1;
