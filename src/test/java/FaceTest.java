@@ -8,7 +8,8 @@ import java.util.TreeSet;
 public final class FaceTest {
     private static final String[] FACE = {
         "int feed(int,int,int,int,int)", "boolean end(int)", "int text()", "int fault()", "int now(int)",
-        "int direct(int,int)", "int truck(int,int)", "int load(int,int) throws", "int trip(int,int) throws",
+        "int direct(int,int)", "int truck(int,int)", "int load(int,int) throws NoSuchElementException",
+        "int trip(int,int) throws NoSuchElementException",
         "int share(int,int)", "int gap(int,int)", "int way(int,int)", "int busiest()", "int hub(int)",
         "int split(int,int,int)", "int without(int,int)", "int dearest()", "int fuel(int,int)", "int buy(int,int)",
         "int weigh(int,int)", "int undo()"};
@@ -62,8 +63,8 @@ public final class FaceTest {
             text.append(text.charAt(text.length() - 1) == '(' ? "" : ",").append(type.getSimpleName());
         }
         text.append(')');
-        if (method.getExceptionTypes().length > 0) {
-            text.append(" throws");
+        for (Class<?> type : method.getExceptionTypes()) {
+            text.append(" throws ").append(type.getSimpleName());
         }
         return text.toString();
     }
