@@ -5,10 +5,12 @@ public final class AskEdgeTest {
     /** 3 places, 2 trucks, 3 loads, 4 trips, 5 gaps; load 2 is on no trip, trip 2 is idle. */
     private static final String TEXT = "desk 100;place 0 0;place 10 0;place 10 20;truck 45 100;truck 10 60;"
             + "load 5 0 2;load 2 1 0;load 7 2 1;"
-            + "trip 0 none 0 on 0 to 1 off 0;trip 1 20 1 on 0 on 1 to 2 off 0 to 0 off 1;trip 0 30 2 to 0;trip 1 none 1 on 1 to 2 off 1;";
+            + "trip 0 none 0 on 0 to 1 off 0;trip 1 20 1 on 0 on 1 to 2 off 0 to 0 off 1;trip 0 30 2 to 0;"
+            + "trip 1 none 1 on 1 to 2 off 1;";
 
     /** As many of each sort as can be; the last truck has all trips, the last load is on the last one. */
-    private static final String FULL = "desk 999;" + "place 9 9;".repeat(11) + "place 0 9;" + "truck 9 9;".repeat(3) + "truck 99 9999;"
+    private static final String FULL = "desk 999;" + "place 9 9;".repeat(11) + "place 0 9;"
+            + "truck 9 9;".repeat(3) + "truck 99 9999;"
             + "load 9 0 11;".repeat(15) + "load 5 0 11;" + "trip 3 1 11;".repeat(14)
             + "trip 3 5 0 on 15 to 11 off 15;trip 3 7 11 on 15 to 10 off 15;";
 
@@ -117,7 +119,8 @@ public final class AskEdgeTest {
             Probe.due("can be undone", desk.now(10), Math.min(12, k + 1));
         }
         FreightShare bits = Probe.told("desk 1;" + "place 1 1;".repeat(12) + "truck 1 1;load 1 0 11;load 1 11 5;"
-                + "trip 0 1 0 on 0 off 0;trip 0 1 0 on 0 to 11 off 0;trip 0 1 11 on 0 on 1 to 5 off 0 off 1;trip 0 1 5 on 1 off 1;");
+                + "trip 0 1 0 on 0 off 0;trip 0 1 0 on 0 to 11 off 0;"
+                + "trip 0 1 11 on 0 on 1 to 5 off 0 off 1;trip 0 1 5 on 1 off 1;");
         Probe.due("the first, the last and one between", bits.now(8), 1 | 1 << 11 | 1 << 5);
         FreightShare bought = Probe.told("desk 1;" + "truck 1 9999;".repeat(4));
         Probe.due("most bought", bought.now(5), 39996);
@@ -148,7 +151,8 @@ public final class AskEdgeTest {
 
     private static void truckWithoutTrips() {
         Probe.sentence("6 where it is in the end (NONE: no TRIPS)");
-        FreightShare desk = Probe.told("desk 1;place 0 0;place 0 10;truck 50 8;truck 50 9;trip 1 none 0 to 1;trip 1 4 1;trip 1 2 0;");
+        FreightShare desk = Probe.told("desk 1;place 0 0;place 0 10;truck 50 8;truck 50 9;"
+                + "trip 1 none 0 to 1;trip 1 4 1;trip 1 2 0;");
         truck("no trips", desk, 0, 50, 8, 0, 0, 0, 0, -1, 0);
         truck("three trips", desk, 1, 50, 9, 7, 10, 10, 6, 0, 5 + 6);
         truck("a trip that goes nowhere", Probe.told("desk 1;place 0 0;place 0 10;truck 50 8;trip 0 none 1;"), 0,
@@ -202,7 +206,8 @@ public final class AskEdgeTest {
     }
 
     private static void tripThatIsIdle() {
-        Probe.sentence("8 what it PARTS to LOADS (IDLE: 0), 9 the TRIP to which an IDLE one's goes (NONE: OPEN, or it is not IDLE)");
+        Probe.sentence("8 what it PARTS to LOADS (IDLE: 0), "
+                + "9 the TRIP to which an IDLE one's goes (NONE: OPEN, or it is not IDLE)");
         trip("idle", Probe.told(TEXT), 2, 0, 30, 30, 30, 0, 0, 30, 30, 0, 0, 2, 0);
         FreightShare open = Probe.told("desk 1;place 0 0;place 0 10;truck 1 8;load 1 0 1;trip 0 3 0 on 0 to 1 to 0 off 0;");
         trip("open", open, 0, 0, 3, 20, 0, 1, 0, 3, 8, 0, -1, 0, 0);
@@ -213,7 +218,8 @@ public final class AskEdgeTest {
 
     private static void tripWithoutSteps() {
         Probe.sentence("10 its first PLACE, 11 its last");
-        trip("no steps", Probe.told("desk 1;place 0 0;place 0 10;truck 1 8;trip 0 none 1;"), 0, 0, -1, 0, 0, 0, 0, 0, 8, 0, -1, 1, 1);
+        trip("no steps", Probe.told("desk 1;place 0 0;place 0 10;truck 1 8;trip 0 none 1;"), 0,
+                0, -1, 0, 0, 0, 0, 0, 8, 0, -1, 1, 1);
         trip("round", Probe.told("desk 1;place 0 0;place 0 10;truck 1 8;trip 0 none 1 to 0 to 1;"), 0,
                 0, -1, 20, 20, 0, 0, 1, 8, 0, -1, 1, 1);
         trip("the last of sixteen", Probe.told(FULL), 15, 3, 7, 9, 0, 1 << 15, 45, 7, 2692, 2692, -1, 11, 10);
@@ -379,7 +385,8 @@ public final class AskEdgeTest {
         String text = "desk 1;place 0 0;place 0 10;truck 1 60;load 1 0 1;";
         Probe.due("nothing told", new FreightShare().dearest(), -1);
         Probe.due("no trips", Probe.told(text).dearest(), -1);
-        Probe.due("idle ones", Probe.told(text + "trip 0 1 0 to 1;trip 0 1 0 on 0 off 0;trip 0 1 0 on 0 to 1 to 0 off 0;").dearest(), -1);
+        Probe.due("idle ones", Probe.told(text + "trip 0 1 0 to 1;trip 0 1 0 on 0 off 0;"
+                + "trip 0 1 0 on 0 to 1 to 0 off 0;").dearest(), -1);
         Probe.due("one that is not", Probe.told(text + "trip 0 1 0 to 1;trip 0 1 0 on 0 to 1 off 0;").dearest(), 1);
         FreightShare after = Probe.told(text + "trip 0 1 0 on 0 to 1 off 0;");
         Probe.tell(after, text);

@@ -55,7 +55,8 @@ public final class GapEdgeTest {
     }
 
     private static void gapsOfLoads() {
-        Probe.sentence("from where it is (FROM at first, behind a TRIP where it was off) to where it is taken on next, if that is elsewhere");
+        Probe.sentence("from where it is (FROM at first, behind a TRIP where it was off) "
+                + "to where it is taken on next, if that is elsewhere");
         String text = PLACES + "truck 1 1;load 1 0 2;";
         gaps("all the way", Probe.told(text + "trip 0 1 0 on 0 to 2 off 0;"));
         gaps("a relay", Probe.told(text + "trip 0 1 0 on 0 to 1 off 0;trip 0 1 1 on 0 to 2 off 0;"));
@@ -111,7 +112,8 @@ public final class GapEdgeTest {
 
     private static void dueRoundedUp() {
         Probe.sentence("WEIGHT times DIRECT times RATE, together, by 1000, rounded up");
-        int[][] want = {{0, 99, 0}, {1, 1, 1}, {999, 1, 1}, {500, 2, 1}, {500, 3, 2}, {1, 99, 1}, {999, 99, 99}, {10, 99, 1}, {11, 91, 2}};
+        int[][] want = {{0, 99, 0}, {1, 1, 1}, {999, 1, 1}, {500, 2, 1}, {500, 3, 2}, {1, 99, 1}, {999, 99, 99}, {10, 99, 1},
+            {11, 91, 2}};
         for (int[] row : want) {
             FreightShare desk = Probe.told("desk " + row[0] + ";place 0 0;place 0 1;load " + row[1] + " 0 1;");
             Probe.due("rate " + row[0] + ", weight " + row[1], Probe.load(desk, 0, 7), row[2]);
@@ -129,7 +131,8 @@ public final class GapEdgeTest {
         Probe.due("gaps", Probe.load(desk, 0, 8), 3);
         Probe.due("together", Probe.load(desk, 0, 7), 2);
         Probe.due("a whole number", Probe.load(Probe.told("desk 50" + rest), 0, 7), 3);
-        FreightShare none = Probe.told("desk 999;place 0 0;place 0 10;truck 1 1;load 99 0 1;trip 0 1 0 on 0 to 1 off 0;trip 0 1 0;");
+        FreightShare none = Probe.told("desk 999;place 0 0;place 0 10;truck 1 1;load 99 0 1;"
+                + "trip 0 1 0 on 0 to 1 off 0;trip 0 1 0;");
         Probe.due("a truck's gap is nobody's due", Probe.load(none, 0, 7), 0);
         Probe.due("no gaps", Probe.load(none, 0, 8), 0);
     }
@@ -158,7 +161,8 @@ public final class GapEdgeTest {
     private static void hubsOfTheNextTrip() {
         // Trips on which it is not, and of other trucks, may lie between; other ones that it is on may not.
         FreightShare desk = Probe.told(PLACES + "truck 1 1;truck 1 1;load 5 0 2;load 6 0 2;"
-                + "trip 0 1 0 on 0 on 1 to 1 off 0 off 1;trip 0 1 2 on 1 to 1 off 1;trip 1 1 0;trip 1 1 1 on 0 on 1 to 2 off 0 off 1;");
+                + "trip 0 1 0 on 0 on 1 to 1 off 0 off 1;trip 0 1 2 on 1 to 1 off 1;trip 1 1 0;"
+                + "trip 1 1 1 on 0 on 1 to 2 off 0 off 1;");
         Probe.due("hubs", desk.now(8), 2);
         Probe.due("both changed", desk.hub(1), 11);
         FreightShare between = Probe.told(PLACES + "truck 1 1;load 5 0 2;"
@@ -169,7 +173,8 @@ public final class GapEdgeTest {
 
     private static void ways() {
         Probe.sentence("A WAY: from a PLACE to another, unlike one: how often LEGS went so.");
-        FreightShare desk = Probe.told(PLACES + "truck 1 1;trip 0 1 0 to 0 to 1 to 1 to 0 to 3 to 0 to 1;trip 0 1 2;trip 0 1 0 to 1;");
+        FreightShare desk = Probe.told(PLACES + "truck 1 1;"
+                + "trip 0 1 0 to 0 to 1 to 1 to 0 to 3 to 0 to 1;trip 0 1 2;trip 0 1 0 to 1;");
         int[][] want = {{0, 1, 3}, {1, 0, 1}, {0, 3, 1}, {3, 0, 1}, {1, 2, 0}, {2, 0, 0}, {0, 0, -1}, {1, 1, -1}};
         for (int[] row : want) {
             Probe.due("way " + row[0] + " " + row[1], desk.way(row[0], row[1]), row[2]);

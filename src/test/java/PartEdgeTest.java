@@ -149,7 +149,8 @@ public final class PartEdgeTest {
         trips("one trip above", Probe.told(PLACES + "truck 0 9;trip 0 0 0;trip 0 1 0;"), 7, 0, 9);
         trips("nothing", Probe.told(PLACES + "truck 0 0;trip 0 0 0;trip 0 0 0;"), 7, 0, 0);
         // Behind another truck whose trips have something each: nothing of that is left.
-        FreightShare two = Probe.told(PLACES + "truck 1 10;truck 0 9;load 3 0 2;load 5 2 0;trip 0 1 0;trip 0 1 0;trip 1 0 0;trip 1 0 0;");
+        FreightShare two = Probe.told(PLACES + "truck 1 10;truck 0 9;load 3 0 2;load 5 2 0;"
+                + "trip 0 1 0;trip 0 1 0;trip 1 0 0;trip 1 0 0;");
         trips("behind another", two, 7, 5, 5, 9, 0);
         shares("behind trips", two, -1, 19, 0);
     }
@@ -215,8 +216,8 @@ public final class PartEdgeTest {
         trips("no use", Probe.told(PLACES + "truck 0 90;trip 0 none 0 to 1;trip 0 10 0;trip 0 20 0;"), 7, 0, 30, 60);
         // One of 0 and one of 1 are above 0 together.
         trips("just above", Probe.told(PLACES + "truck 10 90;trip 0 none 0 to 1;trip 0 none 0;trip 0 10 0;"), 7, 80, 0, 10);
-        trips("just above, behind", Probe.told(PLACES + "truck 10 90;trip 0 none 0;trip 0 none 0 to 1;trip 0 10 0;trip 0 none 0;"),
-                7, 0, 80, 10, 0);
+        trips("just above, behind", Probe.told(PLACES + "truck 10 90;trip 0 none 0;trip 0 none 0 to 1;"
+                + "trip 0 10 0;trip 0 none 0;"), 7, 0, 80, 10, 0);
     }
 
     private static void closedIfToldIsNoMoreThanBought() {

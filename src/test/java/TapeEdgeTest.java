@@ -8,11 +8,13 @@ public final class TapeEdgeTest {
             + "load 8 1 2;load 5 0 2;load 9 2 0;"
             + "trip 1 none 0 on 1 to 1 off 1 on 0 to 2 off 0;trip 0 12 1 on 1 to 2 off 1 to 0;trip 1 none 0 to 2;";
     /** As many of each sort as the other one, with hubs at all places. */
-    private static final String HUBS = "desk 99;place 1 1;place 5 1;place 5 7;truck 8 800;truck 9 90;load 1 0 2;load 2 1 2;load 3 2 1;"
+    private static final String HUBS = "desk 99;place 1 1;place 5 1;place 5 7;truck 8 800;truck 9 90;"
+            + "load 1 0 2;load 2 1 2;load 3 2 1;"
             + "trip 0 5 0 on 0 on 2 to 2 off 0 off 2;trip 0 6 2 on 0 on 1 on 2 to 0 off 1 off 2 off 0;"
             + "trip 0 7 0 on 0 on 1 on 2 to 1 off 0 off 1 off 2;";
     /** As many again, with no load on a trip and no way gone. */
-    private static final String STILL = "desk 8;place 0 0;place 0 9;place 9 9;truck 3 5;truck 4 6;load 4 0 1;load 3 1 2;load 9 0 2;"
+    private static final String STILL = "desk 8;place 0 0;place 0 9;place 9 9;truck 3 5;truck 4 6;"
+            + "load 4 0 1;load 3 1 2;load 9 0 2;"
             + "trip 0 none 0;trip 0 none 0;trip 1 none 1;";
     private static final int BLANKS = 0x20202020;
 
